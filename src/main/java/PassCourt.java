@@ -120,8 +120,8 @@ public final class PassCourt {
     }
 
     public int known(int routine, int place, int register) {
-        Routine found = find(routine);
-        if (found == null || !found.hasPlace(place) || !Code.isRegister(register)) {
+        Routine found = findWith(routine, place, register);
+        if (found == null) {
             return REFUSED;
         }
         knowledge.study(found);
@@ -132,8 +132,8 @@ public final class PassCourt {
     }
 
     public long value(int routine, int place, int register) {
-        Routine found = find(routine);
-        if (found == null || !found.hasPlace(place) || !Code.isRegister(register)) {
+        Routine found = findWith(routine, place, register);
+        if (found == null) {
             return 0;
         }
         knowledge.study(found);
@@ -141,8 +141,8 @@ public final class PassCourt {
     }
 
     public int live(int routine, int place, int register) {
-        Routine found = find(routine);
-        if (found == null || !found.hasPlace(place) || !Code.isRegister(register)) {
+        Routine found = findWith(routine, place, register);
+        if (found == null) {
             return REFUSED;
         }
         liveness.study(found);
@@ -272,6 +272,15 @@ public final class PassCourt {
 
     private Routine find(int number) {
         return number >= 0 && number < routineCount ? routines[number] : null;
+    }
+
+    /** The routine, if it has the PLACE (the END too) and there is such a register. */
+    private Routine findWith(int number, int place, int register) {
+        Routine found = find(number);
+        if (found == null || !found.hasPlace(place) || !Code.isRegister(register)) {
+            return null;
+        }
+        return found;
     }
 
     /** The KINDS of acts, and what holds of each by its KIND and numbers alone. */
@@ -1165,7 +1174,7 @@ public final class PassCourt {
         boolean stopsSurely() {
             int kind = kindHere();
             if (Code.isDivision(kind)) {
-                return hasNumber(zHere()) && values[zHere()] == 0;
+                return hasAsNumber(zHere(), 0);
             }
             return kind == Code.READ && hasNumber(yHere()) && values[yHere()] < 0;
         }
@@ -1173,7 +1182,7 @@ public final class PassCourt {
         void doQuietAct() {
             int kind = kindHere();
             boolean jumps = kind == Code.JUMP || kind == Code.IF && values[xHere()] != 0;
-            int next = jumps ? targetHere() : place + 1;
+            int next = jumps ? routine.target(place) : place + 1;
             changeX();
             place = kind == Code.HALT ? routine.size : next;
         }
@@ -1187,36 +1196,29 @@ public final class PassCourt {
             int kind = kindHere();
             int x = xHere();
             int y = yHere();
+            int z = zHere();
+            boolean stops = Code.isDivision(kind) && hasAsNumber(z, 0);
             if (kind == Code.SET) {
                 sorts[x] = NUMBER;
                 values[x] = y;
             } else if (kind == Code.MOVE) {
                 sorts[x] = sorts[y];
                 values[x] = values[y];
-            } else if (Code.isReckoning(kind)) {
-                reckonX(kind, x, y, zHere());
-            } else if (kind == Code.READ) {
-                madeKind = kind;
-                leftSort = sorts[y];
-                leftValue = values[y];
-                rightSort = NUMBER;
-                rightValue = 0;
-                sorts[x] = MADE;
+            } else if (Code.isReckoning(kind) && hasNumber(y) && hasNumber(z) && !stops) {
+                sorts[x] = NUMBER;
+                values[x] = Code.reckon(kind, values[y], values[z]);
+            } else if (Code.isReckoning(kind) || kind == Code.READ) {
+                makeThing(kind, x, y, z);
             }
         }
 
-        private void reckonX(int kind, int x, int y, int z) {
-            boolean stops = Code.isDivision(kind) && hasAsNumber(z, 0);
-            if (hasNumber(y) && hasNumber(z) && !stops) {
-                sorts[x] = NUMBER;
-                values[x] = Code.reckon(kind, values[y], values[z]);
-                return;
-            }
+        private void makeThing(int kind, int x, int y, int z) {
+            boolean named = kind != Code.READ;
             madeKind = kind;
             leftSort = sorts[y];
             leftValue = values[y];
-            rightSort = sorts[z];
-            rightValue = values[z];
+            rightSort = named ? sorts[z] : NUMBER;
+            rightValue = named ? values[z] : 0;
             sorts[x] = MADE;
         }
 

@@ -17,6 +17,8 @@ public final class JudgeTest {
         twoWays();
         firstCounts();
         placesBeyond();
+        everyRegister();
+        fullRoutine();
         c.finish();
     }
 
@@ -263,6 +265,8 @@ public final class JudgeTest {
         made("another KIND", a(Checks.ADD, 1, 2, 3), a(Checks.SUB, 1, 2, 3), false);
         made("another register", a(Checks.ADD, 1, 2, 3), a(Checks.ADD, 1, 2, 4), false);
         made("a number among them", a(Checks.MUL, 1, 2, 5), a(Checks.MUL, 1, 2, 5), true);
+        made("a number made of what is not known", a(Checks.MUL, 1, 5, 2), a(Checks.SET, 1, 0), false);
+        made("a number ahead of what is not known", a(Checks.MUL, 1, 5, 2), a(Checks.MUL, 1, 5, 2), true);
         made("what is not claimed", a(Checks.ADD, 1, 2, 6), a(Checks.ADD, 1, 2, 6), false);
         made("MOVE", a(Checks.MOVE, 1, 2), a(Checks.MOVE, 1, 2), true);
         made("MOVES of two", a(Checks.MOVE, 1, 2), a(Checks.MOVE, 1, 3), false);
@@ -331,5 +335,44 @@ public final class JudgeTest {
         pair(50, 7, 0, 0);
         judged("the END of an empty one is 0", 0, -1);
         c.due("as it was told", x.of(0, 0), 50);
+    }
+
+    private static void everyRegister() {
+        for (int r = 0; r < 8; r++) {
+            court(acts(a(Checks.PASS)), acts(a(Checks.PASS)));
+            pair(0, 0, 0, 0, a(r, 2, 1));
+            judged("not so of register " + r, 2, 0);
+            court(acts(a(Checks.PASS)), acts(a(Checks.PASS)));
+            pair(0, 0, 0, 0, a(r, 1));
+            pair(1, 1, 0, 0, a(r, 2, 0));
+            judged("no number in register " + r, 7, 0);
+            x.claim(1, r, 1, 0);
+            judged("the same in register " + r, 0, -1);
+            x.claim(0, r, 0, 0);
+            judged("not the same in register " + r, 7, 0);
+            court(acts(a(Checks.DIV, 1, 1, r)), acts(a(Checks.DIV, 1, 1, r)));
+            pair(0, 0, 0, 0, a(1, 1), a(r, 1));
+            judged("by what is not known in register " + r, 5, 0);
+            court(acts(a(Checks.READ, 1, r)), acts(a(Checks.READ, 1, r)));
+            pair(0, 0, 0, 0, a(r, 1));
+            judged("READ by what is not known in register " + r, 5, 0);
+        }
+    }
+
+    /** The END of the longest routine is PLACE 50, where there is no act to look at. */
+    private static void fullRoutine() {
+        int[][] full = new int[50][];
+        java.util.Arrays.fill(full, a(Checks.OUT, 1));
+        for (int mode = 0; mode < 3; mode++) {
+            for (int[] places : acts(a(50, 3), a(3, 50))) {
+                court(full, full);
+                for (int place = 0; place <= 50; place++) {
+                    pair(place, place, 0, 0, a(1, 1));
+                }
+                judged("fifty acts", 0, -1);
+                pair(places[0], places[1], mode, 9);
+                judged("one at its END", 3, 51);
+            }
+        }
     }
 }

@@ -10,6 +10,7 @@ public final class PassesTest {
         drop();
         dropWitness();
         thread();
+        threadAll();
         threadEndless();
         pack();
         emptyRoutine();
@@ -55,6 +56,8 @@ public final class PassesTest {
         c.due("number", x.number(0, 1), 0);
         c.due("number", x.number(2, 1), 6);
         c.due("number of claim 1", x.number(4, 1), 0);
+        int first = c.make(x, a(Checks.MOVE, 1, 2), a(Checks.OUT, 1));
+        c.acts("the first act", x, x.pass(first, Checks.FOLD), a(Checks.SET, 1, 0), a(Checks.OUT, 1));
         int endless = c.make(x, a(Checks.JUMP, 0, 0), a(Checks.OUT, 0));
         x.pass(endless, Checks.FOLD);
         c.due("the END is not come to", x.count(1), 1);
@@ -116,6 +119,22 @@ public final class PassesTest {
         c.pair("6 leads to 7", x, 15, a(6, 7, 1, 1), ALL_SAME);
         c.pair("8 leads to a HALT", x, 16, a(8, 5, 1, 1), ALL_SAME);
         c.pair("a last PASS", x, 17, a(9, 10, 1, 1), ALL_SAME);
+    }
+
+    /** PLACE 0 leads on too, and every act may lie on the way. */
+    private static void threadAll() {
+        PassCourt x = new PassCourt();
+        int r = c.make(x, a(Checks.JUMP, 0, 2), a(Checks.JUMP, 0, 9), a(Checks.PASS), a(Checks.JUMP, 0, 1));
+        int threaded = x.pass(r, Checks.THREAD);
+        c.acts("all lead to the END", x, threaded, a(Checks.JUMP, 0, 4), a(Checks.JUMP, 0, 4), a(0), a(Checks.JUMP, 0, 4));
+        c.due("PAIRS", x.count(1), 9);
+        c.pair("0", x, 5, a(0, 4, 1, 4), ALL_SAME);
+        c.pair("1", x, 6, a(1, 4, 1, 1), ALL_SAME);
+        c.pair("2", x, 7, a(2, 4, 1, 3), ALL_SAME);
+        c.pair("3", x, 8, a(3, 4, 1, 2), ALL_SAME);
+        c.due("judge", x.judge(r, threaded), 0);
+        int back = c.make(x, a(Checks.JUMP, 0, 2), a(Checks.IF, 1, 0), a(Checks.OUT, 1));
+        c.acts("a y of 0", x, x.pass(back, Checks.THREAD), a(Checks.JUMP, 0, 2), a(Checks.IF, 1, 2), a(Checks.OUT, 1));
     }
 
     private static void threadEndless() {
@@ -198,8 +217,16 @@ public final class PassesTest {
         c.due("is empty", x.length(4), 0);
     }
 
-    /** What a second round alone can find: the JUMP that goes lets less come together behind it. */
+    /** An act that only a dropped act asked for is dropped a round later. */
     private static void bestAgain() {
+        PassCourt x = new PassCourt();
+        int three = c.make(x, a(Checks.READ, 1, 0), a(Checks.ADD, 2, 1, 1), a(Checks.MUL, 3, 2, 1), a(Checks.SUB, 4, 3, 1),
+                a(Checks.OUT, 1));
+        c.acts("three rounds", x, x.best(three), a(Checks.READ, 1, 0), a(Checks.OUT, 1));
+        bestStays();
+    }
+
+    private static void bestStays() {
         PassCourt x = new PassCourt();
         int r = c.make(x, a(Checks.READ, 1, 0), a(Checks.SET, 2, 3), a(Checks.MOVE, 3, 2), a(Checks.MOVE, 4, 3),
                 a(Checks.IF, 5, 0), a(Checks.OUT, 4), a(Checks.JUMP, 0, 9));

@@ -155,14 +155,18 @@ public final class RunsTest {
 
     private static void latestRun() {
         PassCourt x = new PassCourt();
-        int r = c.make(x, a(Checks.SET, 1, 8), a(Checks.OUT, 1));
+        int r = c.make(x, a(Checks.SET, 1, 8), a(Checks.SET, 0, 6), a(Checks.SET, 7, 5), a(Checks.OUT, 1));
         int empty = x.routine();
         x.run(r, 9);
+        c.due("register 0", x.register(0), 6);
+        c.due("register 7", x.register(7), 5);
         c.due("register", x.register(1), 8);
         c.due("no register 8", x.register(8), 0);
         c.due("no register -1", x.register(-1), 0);
         x.run(empty, 9);
-        c.due("registers begin as 0", x.register(1), 0);
+        for (int i = 0; i < 8; i++) {
+            c.due("registers begin as 0", x.register(i), 0);
+        }
         c.due("outs", x.outs(), 0);
         c.due("out", x.out(0), 0);
         c.due("acts", x.ran(0), 0);
