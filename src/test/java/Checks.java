@@ -7,9 +7,15 @@ final class Checks {
     private final String title;
     private int wrong = 0;
     private int asked = 0;
+    /** The words of the document that are being tested; told with each answer that is not due. */
+    private String words = "";
 
     Checks(String title) {
         this.title = title;
+    }
+
+    void says(String quote) {
+        words = ", for the document says: " + quote;
     }
 
     void due(String what, long got, long want) {
@@ -17,7 +23,7 @@ final class Checks {
         if (got != want) {
             wrong++;
             if (wrong <= 40) {
-                System.out.println(title + ": " + what + " answered " + got + ", due is " + want);
+                System.out.println(title + ": " + what + " answered " + got + ", due is " + want + words);
             }
         }
     }
