@@ -330,6 +330,10 @@ public final class EdgeKnownTest extends Edges {
             c.due("of the other", x.value(0, place, 3), 0);
             c.due("of the other", x.known(0, place, 3), -1);
         }
+        for (int register = 0; register < 8; register++) {
+            c.due("at the END of the one", x.known(setting, 49, register), 1);
+            known(50, register, 0); // nothing leads from there in the other
+        }
         c.says("the least that holds in this");
         only(a(PASS), a(PASS), a(JUMP, 0, 0));
         int asking = make(a(OUT, 1), a(OUT, 1), a(OUT, 1), a(OUT, 1));
