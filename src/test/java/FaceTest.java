@@ -102,7 +102,8 @@ public final class FaceTest {
             x.act(0, i % 3 == 0 ? 13 : 3, i % 8, i % 3 == 0 ? (i * 7) % 50 : i % 8, i % 3 == 0 ? 0 : 5);
         }
         x.act(0, 12, 0, 0, 0);
-        for (int i = 0; i < 100; i++) {
+        // 51 calls so far and six in each round: an object is used for at most 512.
+        for (int i = 0; i < 75; i++) {
             x.known(0, 50, 0);
             x.live(0, 0, 0);
             x.judge(0, x.pass(0, i % 4));

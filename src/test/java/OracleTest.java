@@ -3,8 +3,10 @@ import java.util.Random;
 /** All promises: random calls, each answered by the class as by a second reading of the document (Oracle). */
 public final class OracleTest {
     private static final Checks c = new Checks("OracleTest");
-    private static final int OBJECTS = 3000;
+    private static final int OBJECTS = 12000;
     private static final int CALLS = 512;
+    /** No step makes more calls than these, but those that look whether there are calls left. */
+    private static final int CALLS_OF_A_STEP = 60;
     private static final int[] EDGES = {Integer.MIN_VALUE, -1, 8, 12, 15, 40, 50, 51, 200, 1000, 1001, 100000, 100001, Integer.MAX_VALUE};
 
     private final Random random;
@@ -57,7 +59,9 @@ public final class OracleTest {
         }
     }
 
+    /** What a call answered is this. */
     private void due(String what, long got, long want) {
+        call++;
         c.due("object " + seed + ", call " + call + ": " + what, got, want);
     }
 
@@ -65,9 +69,8 @@ public final class OracleTest {
         int span = 2 + n(12); // of jumps, so that they often stay inside
         int registers = 2 + n(7);
         int limit = 1 + n(seed % 10 == 0 ? 50 : 12);
-        call = 0;
-        while (call < CALLS) {
-            call++;
+        due("routine", x.routine(), o.routine());
+        while (callsAreLeft()) {
             switch (n(20)) {
                 case 0: due("routine", x.routine(), o.routine()); break;
                 case 1: case 2: case 3: case 4: case 5: case 6: addAct(span, registers, limit); break;
@@ -83,6 +86,10 @@ public final class OracleTest {
                 default: rare(); break;
             }
         }
+    }
+
+    private boolean callsAreLeft() {
+        return call + CALLS_OF_A_STEP <= CALLS;
     }
 
     private void addAct(int span, int registers, int limit) {
@@ -106,20 +113,19 @@ public final class OracleTest {
         int which = around(4);
         int made = o.pass(routine, which);
         due("pass " + which, x.pass(routine, which), made);
-        call++;
-        if (made >= 0 && n(2) == 0) {
+        judge(faults, routine, made);
+        if (made >= 0 && n(5) == 0) {
             sameRoutine(made);
             sameWitness();
         }
-        judge(faults, routine, made);
         if (made >= 0) {
-            due("a PASS brings a WITNESS that is taken", o.judge(routine, made), 0);
+            c.due("a PASS brings a WITNESS that is taken", o.judge(routine, made), 0);
         }
     }
 
     private void sameRoutine(int routine) {
         due("length", x.length(routine), o.length(routine));
-        for (int place = 0; place < o.length(routine); place++) {
+        for (int place = 0; place < o.length(routine) && callsAreLeft(); place++) {
             for (int what = 0; what < 4; what++) {
                 due("at(" + routine + ", " + place + ", " + what + ")", x.at(routine, place, what), o.at(routine, place, what));
             }
@@ -128,7 +134,7 @@ public final class OracleTest {
 
     private void sameWitness() {
         due("PAIRS", x.count(1), o.count(1));
-        for (int pair = 0; pair < o.count(1); pair++) {
+        for (int pair = 0; pair < o.count(1) && callsAreLeft(); pair++) {
             for (int what = 0; what < 12; what++) {
                 due("of(" + pair + ", " + what + ")", x.of(pair, what), o.of(pair, what));
             }
@@ -155,7 +161,7 @@ public final class OracleTest {
         for (int what = 0; what < 2; what++) {
             due("ran", x.ran(what), o.ran(what));
         }
-        for (int i = 0; i < Math.min(202, o.outs() + 1); i++) {
+        for (int i = 0; i < Math.min(202, o.outs() + 1) && callsAreLeft(); i++) {
             due("out " + i, x.out(i), o.out(i));
         }
         for (int i = 0; i < 8; i++) {
@@ -197,7 +203,6 @@ public final class OracleTest {
                 long number = n(4) == 0 ? someLong() : 0;
                 due("claim", x.claim(pair, register, claim, number), o.claim(pair, register, claim, number));
             }
-            call++;
         }
     }
 

@@ -5,8 +5,11 @@ import java.util.Random;
 /** What the judge takes gives out the same and ends or stops alike: of passes, and of routines and witnesses spoilt at random. */
 public final class SoundTest {
     private static final Checks c = new Checks("SoundTest");
-    private static final int OBJECTS = 6000;
+    private static final int OBJECTS = 9000;
     private static final int FUEL = 3000;
+    /** So few PASSES, and numbers that are asked for, as an object is used for at most 512 calls. */
+    private static final int MOST_PASSES = 2;
+    private static final int MOST_OUTS = 30;
     private static int taken = 0;
     private static int takenSpoilt = 0;
 
@@ -37,7 +40,7 @@ public final class SoundTest {
         }
         int plain = someRoutine(3 + n(10));
         int made = plain;
-        for (int i = 0; i < 3; i++) {
+        for (int i = 0; i < MOST_PASSES; i++) {
             int from = made;
             made = x.pass(from, n(4));
             c.due("a PASS is taken", x.judge(from, made), 0);
@@ -96,9 +99,10 @@ public final class SoundTest {
         }
     }
 
-    private List<Long> outsOfLatest() {
+    /** The first numbers that the latest RUN gave out. */
+    private List<Long> outsOfLatest(int given) {
         List<Long> outs = new ArrayList<>();
-        for (int i = 0; i < Math.min(200, x.outs()); i++) {
+        for (int i = 0; i < Math.min(MOST_OUTS, given); i++) {
             outs.add(x.out(i));
         }
         return outs;
@@ -106,16 +110,18 @@ public final class SoundTest {
 
     private void alike(int a, int b) {
         int endA = x.run(a, FUEL);
-        List<Long> outsA = outsOfLatest();
+        int givenA = x.outs();
+        List<Long> outsA = outsOfLatest(givenA);
         int endB = x.run(b, FUEL);
-        List<Long> outsB = outsOfLatest();
+        int givenB = x.outs();
+        List<Long> outsB = outsOfLatest(givenB);
         if (endA != 3 && endB != 3) {
             c.due("they end alike", endB, endA);
-            c.due("they give out as many", outsB.size(), outsA.size());
+            c.due("they give out as many", givenB, givenA);
         }
         // One that goes on may be behind or ahead of the other, but not beyond one that has ended.
-        c.due("not more than what ended", endA == 3 && endB != 3 && outsA.size() > outsB.size() ? 1 : 0, 0);
-        c.due("not more than what ended", endB == 3 && endA != 3 && outsB.size() > outsA.size() ? 1 : 0, 0);
+        c.due("not more than what ended", endA == 3 && endB != 3 && givenA > givenB ? 1 : 0, 0);
+        c.due("not more than what ended", endB == 3 && endA != 3 && givenB > givenA ? 1 : 0, 0);
         for (int i = 0; i < Math.min(outsA.size(), outsB.size()); i++) {
             c.due("out " + i, outsB.get(i), outsA.get(i));
         }
